@@ -106,6 +106,11 @@ final class HashTest {
                 """);
         runs.play("six are not", split.toString().replace(" 768 0 = NONE", " 768 0 = NONE\nmap 0 2 0 0 = 0")
                 + "map 0 0 900 0 = NONE; map 0 21 0 0 = 128; map 0 22 0 0 = 0; map 0 4 0 0 = 49");
+        runs.play("six in the upper one are not", split.toString().replace(" 768 0 = NONE", " 704 0 = NONE")
+                + "map 0 21 0 0 = 128; map 0 22 0 0 = 0; item 0 0 0 = 0; item 0 5 0 = 640; item 0 6 0 = 1");
+        runs.play("seven in the upper one are", split.toString().replace(" 768 0 = NONE", " 704 0 = NONE")
+                .replace(" 640 0 = NONE", " 832 0 = NONE") + "map 0 21 0 0 = 128; map 0 22 0 0 = 1; map 0 2 832 0 = 0\n"
+                + "map 0 22 0 0 = 0");
         runs.play("a full BIN of a small TABLE doubles it once", """
                 make 0 0 2 = 0; map 0 0 1 0 = NONE; map 0 0 2 0 = NONE; map 0 0 3 0 = NONE; map 0 0 4 0 = NONE
                 map 0 0 5 0 = NONE; map 0 0 6 0 = NONE; map 0 0 7 0 = NONE; map 0 0 8 0 = NONE; map 0 21 0 0 = 16

@@ -29,26 +29,31 @@ final class FaceTest {
     /** No catch at all, so none that answers what the machine throws. */
     private static final List<String> RULED_OUT = List.of("->", "::", "\\btry\\b", "\\bcatch\\b", "\\bfinally\\b",
             "\\bsynchronized\\b", "\\bassert\\b", "\\bstatic \\{", "\\bpackage\\b", "Exact\\(", "\\bSystem\\.(?!arraycopy)",
-            "\\bRandom\\b", "\\bThread\\b", "\\bhashCode\\b", "\\btoString\\b", "\\bArrays\\.(?!copyOf)", "\\bwhile\\b");
+            "\\bRandom\\b", "\\bThread\\b", "\\bhashCode\\b", "\\btoString\\b", "\\bArrays\\.(?!copyOf|fill)");
 
     public static void main(String[] args) throws IOException {
         Runs runs = new Runs();
         Class<?> face = KeyAtlas.class;
-        runs.due("modifiers of the class", Modifier.toString(face.getModifiers()), "public final");
+        runs.due("The public face: public final class KeyAtlas", Modifier.toString(face.getModifiers()), "public final");
         Set<String> open = new TreeSet<>();
         Set<String> names = new TreeSet<>();
         for (Method method : face.getDeclaredMethods()) {
             if (!Modifier.isPrivate(method.getModifiers())) {
                 open.add(told(method));
                 names.add(method.getName());
+                runs.due("The public face: public " + told(method), Modifier.toString(method.getModifiers()), "public");
             }
         }
-        runs.due("methods", open, new TreeSet<>(FACE));
+        for (String line : FACE) {
+            runs.due("The public face: public " + line, open.contains(line), true);
+        }
+        runs.due("The public face: no other method", open, new TreeSet<>(FACE));
+        runs.due("The public face: one constructor", face.getDeclaredConstructors().length, 1);
         for (Constructor<?> constructor : face.getDeclaredConstructors()) {
-            runs.due("constructor", constructor.toString(), "public KeyAtlas()");
+            runs.due("The public face: public KeyAtlas()", constructor.toString(), "public KeyAtlas()");
         }
         for (Field field : face.getDeclaredFields()) {
-            runs.due("private " + field.getName(), Modifier.isPrivate(field.getModifiers()), true);
+            runs.due("The public face: no field, so this one is private: " + field.getName(), Modifier.isPrivate(field.getModifiers()), true);
         }
         runs.due("not too many classes", face.getDeclaredClasses().length < 12, true);
         for (Class<?> inside : face.getDeclaredClasses()) {

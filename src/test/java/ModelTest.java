@@ -3,8 +3,7 @@ import java.util.TreeMap;
 
 /** All promises at once: runs of mixed calls, the same each time, answered by KeyAtlas and by the Model. */
 final class ModelTest {
-    private static final int RUNS = 3000;
-    private static final int CALLS = 400;
+    private static final int RUNS = 4000;
     private static final int[] EDGES = {Integer.MIN_VALUE, Integer.MIN_VALUE + 1, Integer.MAX_VALUE, 65536, -65536, 1 << 20};
 
     private final Map<String, Integer> answered = new TreeMap<>();
@@ -12,6 +11,7 @@ final class ModelTest {
     private int style;
     private int newCursor;
     private int movesLeft;
+    private int made;
     private KeyAtlas atlas;
     private Model model;
 
@@ -35,13 +35,12 @@ final class ModelTest {
         movesLeft = 0;
         atlas = new KeyAtlas();
         model = new Model();
-        for (int call = 0; call < CALLS; call++) {
-            String line = nextCall();
-            check(run, call, line);
-            if (call % 40 == 39) {
-                checkAll(run, call);
-            }
+        made = 0;
+        // At its end all that is there is looked at once, within the calls for which an object is used.
+        for (int call = 0; call < Runs.MOST_CALLS && made + callsForAll() < Runs.MOST_CALLS; call++) {
+            check(run, nextCall());
         }
+        checkAll(run);
     }
 
     /** Style 0 to 2: few keys; 3: many; 4, 5: keys that share BINS of a HASH. */
@@ -129,12 +128,13 @@ final class ModelTest {
         return "map " + object(below(2) * 2, 3) + " " + op + " " + (byValue ? value() : key()) + " " + b;
     }
 
-    private void check(int run, int call, String line) {
+    private void check(int run, String line) {
+        made++;
         String[] words = line.split(" ");
-        String got = Runs.answer(atlas, words);
+        String got = Runs.told(atlas, words);
         String want = modelAnswer(words);
         if (!got.equals(want)) {
-            System.out.println("run " + run + ", call " + call + ": " + line + " answered " + got + ", due is " + want);
+            System.out.println("run " + run + ", call " + made + ": " + line + " answered " + got + ", due is " + want);
             System.exit(1);
         }
         if (words[0].equals("cursor") && !want.startsWith("!")) {
@@ -146,18 +146,26 @@ final class ModelTest {
         answered.merge(want.startsWith("!") ? words[0] + want : name, 1, Integer::sum);
     }
 
-    private void checkAll(int run, int call) {
+    private int callsForAll() {
+        int calls = 0;
         for (int o = 0; o < 16; o++) {
-            check(run, call, "count " + (10 + o));
-            check(run, call, "count " + (30 + o));
+            calls += 4 + 2 * Math.max(0, (int) model.count(30 + o));
+        }
+        return calls;
+    }
+
+    private void checkAll(int run) {
+        for (int o = 0; o < 16; o++) {
+            check(run, "count " + (10 + o));
+            check(run, "count " + (30 + o));
             long size = model.count(30 + o);
             for (int i = 0; i < size; i++) {
-                check(run, call, "item " + o + " " + i + " 0");
-                check(run, call, "item " + o + " " + i + " 1");
+                check(run, "item " + o + " " + i + " 0");
+                check(run, "item " + o + " " + i + " 1");
             }
             if (model.count(10 + o) == 0) {
-                check(run, call, "map " + o + " 21 0 0");
-                check(run, call, "map " + o + " 22 0 0");
+                check(run, "map " + o + " 21 0 0");
+                check(run, "map " + o + " 22 0 0");
                 answered.merge(model.map(o, 22, 0, 0) > 0 ? "a BUSHY BIN" : "no BUSHY BIN", 1, Integer::sum);
             }
         }

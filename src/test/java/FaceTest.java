@@ -53,7 +53,8 @@ final class FaceTest {
             runs.due("The public face: public KeyAtlas()", constructor.toString(), "public KeyAtlas()");
         }
         for (Field field : face.getDeclaredFields()) {
-            runs.due("The public face: no field, so this one is private: " + field.getName(), Modifier.isPrivate(field.getModifiers()), true);
+            boolean isPrivate = Modifier.isPrivate(field.getModifiers());
+            runs.due("The public face: no field, so this one is private: " + field.getName(), isPrivate, true);
         }
         runs.due("not too many classes", face.getDeclaredClasses().length < 12, true);
         for (Class<?> inside : face.getDeclaredClasses()) {

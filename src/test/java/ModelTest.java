@@ -4,7 +4,8 @@ import java.util.TreeMap;
 /** All promises at once: runs of mixed calls, the same each time, answered by KeyAtlas and by the Model. */
 final class ModelTest {
     private static final int RUNS = 4000;
-    private static final int[] EDGES = {Integer.MIN_VALUE, Integer.MIN_VALUE + 1, Integer.MAX_VALUE, 65536, -65536, 1 << 20};
+    private static final int[] EDGES = {Integer.MIN_VALUE, Integer.MIN_VALUE
+            + 1, Integer.MAX_VALUE, 65536, -65536, 1 << 20};
 
     private final Map<String, Integer> answered = new TreeMap<>();
     private long seed;
@@ -96,15 +97,18 @@ final class ModelTest {
             return mapCall();
         }
         if (dice < 76) {
-            return "view " + object(below(20) == 0 ? 0 : 2, 3) + " " + (below(12) == 0 ? below(8) - 1 : 1 + below(4)) + " " + key() + " " + key();
+            return "view " + object(below(20) == 0 ? 0 : 2, 3) + " " + (below(12) == 0 ? below(8) - 1 : 1 + below(4))
+                    + " " + key() + " " + key();
         }
         if (dice < 80) {
             return "cursor " + object(0, 3);
         }
         if (dice < 94) {
-            return "move " + object(4, 4) + " " + (below(3) == 0 ? below(7) - 1 : below(3) == 0 ? 2 : 0) + " " + value();
+            return "move " + object(4, 4) + " " + (below(3) == 0 ? below(7) - 1 : below(3) == 0 ? 2 : 0) + " "
+                    + value();
         }
-        return dice < 98 ? "item " + object(0, 3) + " " + (below(12) - 1) + " " + (below(12) == 0 ? below(5) - 1 : below(2))
+        return dice < 98 ? "item " + object(0, 3) + " " + (below(12) - 1) + " "
+                + (below(12) == 0 ? below(5) - 1 : below(2))
                 : "count " + (below(50) - 1);
     }
 

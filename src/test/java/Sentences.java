@@ -5,22 +5,33 @@ import java.util.Set;
 final class Sentences {
     private final Runs runs = new Runs();
     private final Set<String> quoted = new LinkedHashSet<>();
+    private int cases;
 
     /** What: the case of the sentence that this run of calls tries. */
     void hold(String sentence, String what, String script) {
-        quoted.add(sentence);
+        note(sentence);
         runs.play(named(sentence, what), script);
     }
 
     /** For what can't be reached within the calls for which an object is used. */
     void holdLong(String sentence, String what, String script) {
-        quoted.add(sentence);
+        note(sentence);
         runs.playLong(named(sentence, what), script);
     }
 
     void due(String sentence, String what, Object got, Object want) {
-        quoted.add(sentence);
+        note(sentence);
         runs.due(named(sentence, what), got, want);
+    }
+
+    private void note(String sentence) {
+        quoted.add(sentence);
+        cases++;
+    }
+
+    void end() {
+        runs.end();
+        System.out.println(quoted.size() + " sentences hold in " + cases + " cases");
     }
 
     Set<String> quoted() {
@@ -46,7 +57,8 @@ final class Sentences {
 
     /** Sixteen OBJECTS: TREE 0, its SUBMAP 1, HASH 2, LINKED 3, CURSOR 4 of the TREE, then TREES. */
     static String sixteen() {
-        StringBuilder script = new StringBuilder("make 2 0 0 = 0; view 0 4 0 0 = 1; make 0 0 0 = 2; make 1 0 0 = 3; cursor 0 = 4\n");
+        StringBuilder script = new StringBuilder("make 2 0 0 = 0; view 0 4 0 0 = 1; make 0 0 0 = 2; make 1 0 0 = 3; "
+                + "cursor 0 = 4\n");
         for (int o = 5; o < 16; o++) {
             script.append("make 2 0 0 = " + o + "\n");
         }

@@ -2,6 +2,7 @@ import java.io.IOException;
 import java.nio.file.Files;
 import java.nio.file.Path;
 import java.util.ArrayList;
+import java.util.Arrays;
 import java.util.List;
 
 /** Every sentence of the document has tests that bear its words: plays them, and looks whether one was left out. */
@@ -21,7 +22,7 @@ final class SentencesTest {
         if (Files.exists(DOCUMENT)) {
             checkQuotes(doc, toldText(Files.readString(DOCUMENT)));
         }
-        doc.runs().end();
+        doc.end();
     }
 
     /** What the sections tell, without headings, without the face (FaceTest has it) and without what is not promised. */
@@ -47,7 +48,7 @@ final class SentencesTest {
         for (String sentence : doc.quoted()) {
             doc.runs().due("words of the document: " + sentence, text.contains(sentence), true);
             for (int at = text.indexOf(sentence); at >= 0; at = text.indexOf(sentence, at + 1)) {
-                java.util.Arrays.fill(isQuoted, at, at + sentence.length(), true);
+                Arrays.fill(isQuoted, at, at + sentence.length(), true);
             }
         }
         doc.runs().due("words of the document that no test bears", leftOut(text, isQuoted), List.of());

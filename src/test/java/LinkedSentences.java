@@ -55,6 +55,10 @@ final class LinkedSentences {
                 + "map 0 0 4 10 = NONE; map 0 1 1 0 = 10; move 1 1 0 ! IllegalState\n"
                 + "cursor 0 = 2; map 0 1 2 0 = 10; map 0 0 5 10 = NONE; move 2 1 0 ! IllegalState; cursor 0 = 3; "
                 + "map 0 1 3 0 = 10; map 0 2 3 0 = 10; move 3 1 0 ! IllegalState");
+        for (int size = 1; size <= 40; size++) {
+            doc.hold(USED, "the first of " + size, "make 1 0 1 = 0\n" + Sentences.puts(0, 1, size + 1, 7)
+                    + "map 0 1 1 0 = 7; map 0 4 0 0 = " + size + "; map 0 11 0 0 = 1; map 0 10 0 0 = " + Math.min(2, size));
+        }
         doc.hold(USED, "with the VALUE that it has then", three + "map 0 0 1 11 = 10; map 0 7 2 12 = 10; "
                 + "map 0 8 3 3 = 13; keys 0 = 1 2 3; values 0 = 11 12 13");
         doc.hold(USED, "op 6 leaves the VALUE", three + "map 0 6 1 99 = 10; keys 0 = 2 3 1; values 0 = 10 10 10");

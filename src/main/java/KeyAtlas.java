@@ -357,7 +357,7 @@ public final class KeyAtlas {
             int to = 0;
             for (int round = 0; round < 2; round++) {
                 for (int i = 0; i < size && i < marked.length; i++) {
-                    if (marked[i] == (round == 1)) {
+                    if (marked[i] == (round == 1) && to < newKeys.length) {
                         newKeys[to] = keys[i];
                         newValues[to] = values[i];
                         to++;
@@ -629,6 +629,8 @@ public final class KeyAtlas {
         private static final int CROWD = 8;
         private static final int SPARSE = 6;
         private static final int LEAST_BUSHY_TABLE = 64;
+        /** No run comes near it: 1000 keys have a TABLE of 2048 at most. */
+        private static final int FAR_TABLE = 1 << 20;
 
         private final int capacity;
         private final int rule;
@@ -708,6 +710,9 @@ public final class KeyAtlas {
 
         private void doubleTable() {
             int half = table;
+            if (half < 1 || half >= FAR_TABLE) {
+                return;
+            }
             boolean[] wasBushy = bushy;
             table = half * 2;
             bushy = new boolean[table];
@@ -715,12 +720,14 @@ public final class KeyAtlas {
             boolean[] goesUp = new boolean[rows.size()];
             for (int i = 0; i < goesUp.length; i++) {
                 int bin = binOf(rows.key(i));
-                held[bin]++;
+                if (bin >= 0 && bin < held.length) {
+                    held[bin]++;
+                }
                 goesUp[i] = bin >= half;
             }
             // A BIN's keys go to the BIN of the same number or to that plus half, so two groups give the new order.
             rows.moveBehind(goesUp);
-            for (int bin = 0; bin < half; bin++) {
+            for (int bin = 0; bin < half && bin < wasBushy.length; bin++) {
                 bushy[bin] = wasBushy[bin] && held[bin] > SPARSE;
                 bushy[bin + half] = wasBushy[bin] && held[bin + half] > SPARSE;
             }
